@@ -66,7 +66,7 @@ public final class SoldYear {
 
   private final World world = new World();
   private final World kept = new World();
-  private final Scribe scribe = new Scribe(world.tape);
+  private final Scribe scribe = new Scribe();
   private final Choir choir = new Choir();
   private final Sheet[] sheets = new Sheet[SHEETS];
   private final int[] errors = new int[PARTED + 1];
@@ -246,7 +246,7 @@ public final class SoldYear {
     if (!isWithin(use, USES)) {
       return error(BEYOND);
     }
-    boolean good = scribe.reads(world.tapeCount, use == AGES_USE ? "btm" : "akm");
+    boolean good = scribe.reads(world.tape, world.tapeCount, use == AGES_USE ? "btm" : "akm");
     world.tapeCount = 0;
     if (!good) {
       return -10 - scribe.at;
@@ -836,19 +836,16 @@ public final class SoldYear {
     private static final int COMPARING = 2;
     private static final int OPEN = 5;
 
-    private final int[] tape;
+    private final int[] tape = new int[TAPE];
     private final int[] code = new int[TAPE];
     private int size;
     private int end;
     private int at;
     private String names = "";
 
-    private Scribe(int[] tape) {
-      this.tape = tape;
-    }
-
-    private boolean reads(int n, String of) {
-      end = Math.min(n, tape.length);
+    private boolean reads(int[] bytes, int n, String of) {
+      end = Math.min(n, Math.min(TAPE, bytes.length));
+      System.arraycopy(bytes, 0, tape, 0, end);
       names = of;
       at = 0;
       size = 0;

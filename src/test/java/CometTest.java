@@ -16,6 +16,10 @@ public final class CometTest {
     Checks.due("twice at the edge", x.comet(364, 99), 3);
     Checks.due("once more", x.comet(365 + 364, 99), 3);
     Checks.due("not any more", x.comet(2 * 365, 99), 2);
+    x.comet(365, 1);
+    Checks.due("each year from the first on", x.claim(2), 15);
+    Checks.due("not ahead of it", x.claim(0), 0);
+    x.comet(0, 1);
     Checks.due("day -1", x.comet(-1, 1), Checks.BEYOND);
     Checks.due("day 73000", x.comet(73000, 1), Checks.BEYOND);
     Checks.due("p 0", x.comet(0, 0), Checks.BEYOND);
@@ -89,6 +93,16 @@ public final class CometTest {
     Checks.due("BEYOND ahead of FULL", x.breaks(0, 0, 1), Checks.BEYOND);
   }
 
+  private static void leastOfSixty() {
+    SoldYear x = new SoldYear();
+    x.thing(10, 0, 0);
+    for (int i = 0; i < 60; i++) {
+      Checks.due("a name that breaks none, to 60, after " + i, x.least(0, 1), i + 1);
+      x.pass(365);
+    }
+    Checks.due("61 isn't looked at", x.least(0, 1), 1);
+  }
+
   private static void least() {
     SoldYear x = new SoldYear();
     Checks.due("of several the least", x.least(0, 1), 1);
@@ -105,6 +119,7 @@ public final class CometTest {
       x.pass(9999);
     }
     Checks.due("all break one", x.least(0, 1), 1);
+    leastOfSixty();
     Checks.due("from -1", x.least(-1, 0), Checks.BEYOND);
     Checks.due("to 4", x.least(0, 4), Checks.BEYOND);
     Checks.due("one twice", x.least(3, 3), Checks.BEYOND);

@@ -52,8 +52,9 @@ public final class ImagesTest {
     x.seed(5);
     x.check();
     x.tell(9);
+    x.text(1);
     x.untell(1);
-    Checks.text(x, 0, "1");
+    Checks.due("another text", Checks.text(x, 0, "1"), 1);
     Checks.feed(x, "!!!!");
     Checks.due("now", x.restore(), 3650);
     int[] counts = {2, 1, 1, 3650, 3, 2, 0, 99, 218};
@@ -64,7 +65,10 @@ public final class ImagesTest {
     Checks.due("names", x.name(0, 40), 42);
     Checks.due("kind", x.thingIs(0, 0), 6);
     Checks.due("age", x.thingIs(0, 4), 109);
+    Checks.due("from", x.saleIs(0, 1), 0);
+    Checks.due("to", x.saleIs(0, 2), 1);
     Checks.due("paper", x.paperIs(0, 0), 42);
+    Checks.due("day of the year", x.paperIs(0, 1), 7);
     Checks.due("comet", x.claim(10), 15);
     Checks.due("comet", x.claim(11), 0);
     Checks.due("the tape", x.text(1), 1);
@@ -74,6 +78,14 @@ public final class ImagesTest {
     x.restore();
     Checks.due("again", x.count(0), 2);
     Checks.due("again", x.count(4), 3);
+    Checks.due("two wait, and one paper is there", x.check(), 1);
+    Checks.due("the first number", checked(x, 44 * 365 + 7, 2), 2);
+    x.tell(44 * 365 + 7);
+    x.image();
+    x.check();
+    x.tell(5);
+    x.restore();
+    Checks.due("the numbers that wait, themselves", x.check(), 0);
   }
 
   private static void whatIsNotKept() {

@@ -147,6 +147,10 @@ public final class PapersTest {
     Checks.due("greatest -1", x.span(0, -1), Checks.BEYOND);
     Checks.due("no such paper", x.span(3, 0), Checks.BEYOND);
     Checks.due("paper -1", x.span(-1, 0), Checks.BEYOND);
+    SoldYear y = new SoldYear();
+    y.paper(0, 0);
+    Checks.due("day 0, least", y.span(0, 0), 0);
+    Checks.due("day 0, greatest", y.span(0, 1), 0);
     Checks.due("without papers", new SoldYear().span(0, 0), Checks.BEYOND);
   }
 

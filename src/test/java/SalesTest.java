@@ -126,6 +126,20 @@ public final class SalesTest {
     for (int i = 0; i < one.length; i++) {
       Checks.due("county 1, year " + (40 + i), x.name(1, 40 + i), one[i]);
     }
+    SoldYear z = new SoldYear();
+    int[] sold = {10, 50, 40, 30, 60, 20};
+    for (int name : sold) {
+      z.sale(name, 0, 1);
+    }
+    int[] years = {9, 10, 18, 19, 27, 28, 36, 37, 45, 46, 54, 55, 56};
+    int[] called = {9, 11, 19, 21, 29, 31, 39, 41, 49, 51, 59, 61, 62};
+    for (int i = 0; i < years.length; i++) {
+      Checks.due("six of them, made out of order, year " + years[i], z.name(0, years[i]), called[i]);
+    }
+    Checks.due("the buyer's", z.name(1, 31), 29);
+    Checks.due("the buyer's", z.name(1, 32), 30);
+    Checks.due("the buyer's", z.name(1, 33), 30);
+    Checks.due("the buyer's", z.name(1, 34), 31);
     SoldYear y = new SoldYear();
     for (int i = 0; i < 6; i++) {
       y.sale(1 + i, 2, 3);
@@ -162,6 +176,7 @@ public final class SalesTest {
     Checks.due("first of two", x.day(1, 41, 3, 0), 41 * 365 + 3);
     Checks.due("second of two", x.day(1, 41, 3, 1), 42 * 365 + 3);
     Checks.due("name 0", x.day(2, 0, 0, 0), 0);
+    Checks.due("name 0 once only", x.day(2, 0, 0, 1), Checks.NONE);
     Checks.due("name 199", x.day(2, 199, 364, 0), 72999);
     Checks.due("name 200", x.day(2, 200, 0, 0), Checks.NONE);
     Checks.due("name 200 there", x.day(0, 200, 0, 0), 199 * 365);

@@ -128,6 +128,10 @@ public final class SheetsTest {
     fill(x, 0, 32, -1, 6);
     Checks.due("below 0", x.papers(0), 0);
     Checks.due("four", x.count(2), 4);
+    SoldYear y = new SoldYear();
+    fill(y, 0, 32, 1, 2, 3, 4);
+    Checks.due("all", y.papers(0), 2);
+    Checks.due("the last", y.paperIs(1, 1), 4);
     fill(x, 0, 8, 1, 1, 2, 2, 3, 3, 4, 4, 5, 5);
     Checks.due("up to the ninth", x.papers(0), 4);
     Checks.due("full", x.papers(0), 0);

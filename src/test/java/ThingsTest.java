@@ -173,6 +173,9 @@ public final class ThingsTest {
     Checks.due("term, at once", x.comes(3, 0, 7), 3655);
     Checks.due("term", x.comes(3, 0, 8), 11 * 365 + 5);
     Checks.due("99 years", x.comes(0, 3, 99), 109 * 365 + 5);
+    x.set(3, 3, 0);
+    Checks.due("on day 0", x.comes(3, 0, 7), 0);
+    Checks.due("on day 0", x.where(3, 7), 0);
     x.set(0, 3, 199 * 365);
     Checks.due("never", x.comes(0, 0, 1), Checks.NONE);
     x.set(0, 3, 198 * 365 + 364);
