@@ -1283,7 +1283,7 @@ public final class SoldYear {
     }
   }
 
-  /** A row of numbers of 8, 16 or 32 bits, with their signs as Java's byte, short and int have them; 0 bits: missing. */
+  /** A row of numbers of 8, 16 or 32 bits, signed as Java's byte, short and int are; 0 bits: it is missing. */
   private static final class Sheet {
     private final int[] row = new int[SHEET_NUMBERS];
     private int bits;
