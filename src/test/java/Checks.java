@@ -36,6 +36,15 @@ final class Checks {
     return held;
   }
 
+  /** A TEXT of eight bytes at most, fed as one word. */
+  static int word(SoldYear x, String text) {
+    long word = 0;
+    for (int i = text.length() - 1; i >= 0; i--) {
+      word = word << 8 | text.charAt(i);
+    }
+    return x.feed(word, text.length());
+  }
+
   static int text(SoldYear x, int use, String text) {
     feed(x, text);
     return x.text(use);
