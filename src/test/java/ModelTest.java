@@ -1,8 +1,3 @@
-import java.lang.reflect.Method;
-import java.lang.reflect.Modifier;
-import java.util.Arrays;
-import java.util.HashMap;
-import java.util.Map;
 import java.util.Random;
 
 /** All promises at once: runs of drawn calls (always the same ones), compared with NaiveYear. */
@@ -24,16 +19,18 @@ public final class ModelTest {
     "image", "restore", "tell wait", "check", "count what", "told number"
   };
 
-  private static final Map<String, Method> ASKED = methodsOf(SoldYear.class);
-  private static final Map<String, Method> MODEL = methodsOf(NaiveYear.class);
+  /** The NAMES and YEARS around which a run draws most: the midst, both ends of what can be sold, the last YEARS. */
+  private static final int[] MIDSTS = {44, 44, 3, 148, 196};
 
   private final Random draws;
-  private final SoldYear x = new SoldYear();
-  private final NaiveYear y = new NaiveYear();
-  private final StringBuilder story = new StringBuilder();
+  private final int midst;
+  private final Both both = new Both();
+  private final SoldYear x = both.x;
+  private final NaiveYear y = both.y;
 
   private ModelTest(int number) {
     draws = new Random(number);
+    midst = MIDSTS[number % MIDSTS.length];
   }
 
   public static void main(String[] args) throws ReflectiveOperationException {
@@ -41,16 +38,6 @@ public final class ModelTest {
       new ModelTest(i).run();
     }
     Checks.end("ModelTest");
-  }
-
-  private static Map<String, Method> methodsOf(Class<?> type) {
-    Map<String, Method> methods = new HashMap<>();
-    for (Method method : type.getDeclaredMethods()) {
-      if (!Modifier.isPrivate(method.getModifiers())) {
-        methods.put(method.getName(), method);
-      }
-    }
-    return methods;
   }
 
   private void run() throws ReflectiveOperationException {
@@ -68,7 +55,7 @@ public final class ModelTest {
       }
     }
     if (!Checks.allRight()) {
-      System.out.println(story);
+      System.out.println(both.story());
     }
   }
 
@@ -89,10 +76,7 @@ public final class ModelTest {
   }
 
   private int ask(String name, Object... args) throws ReflectiveOperationException {
-    String call = name + Arrays.toString(args);
-    long want = ((Number) MODEL.get(name).invoke(y, args)).longValue();
-    story.append(call).append(" = ").append(want).append('\n');
-    Checks.due(call, ((Number) ASKED.get(name).invoke(x, args)).longValue(), want);
+    both.ask(name, args);
     return 1;
   }
 
@@ -147,7 +131,7 @@ public final class ModelTest {
 
   private int drawn(String from) {
     switch (from) {
-      case "sold": return to(15) == 0 ? near(151) : 38 + to(12);
+      case "sold": return to(15) == 0 ? near(150) : midst > 150 ? 1 + to(150) : midst - 6 + to(12);
       case "county": return to(25) == 0 ? near(3) : to(4);
       case "number": return to(15) == 0 ? near(24) : to(8);
       case "what": return to(15) == 0 ? near(8) : to(9);
@@ -176,25 +160,25 @@ public final class ModelTest {
 
   /** Within 0 .. most, just beyond it, or far away. */
   private int near(int most) {
-    int[] values = {-1, most + 1, Integer.MIN_VALUE, Integer.MAX_VALUE, 0, most};
+    int[] values = {-1, most + 1, Integer.MIN_VALUE, Integer.MAX_VALUE, 0, 1, most - 1, most};
     return values[to(values.length)];
   }
 
   private int someName() {
     int kind = to(9);
-    return kind == 0 ? near(206) : kind == 1 ? 190 + to(17) : kind == 2 ? to(207) : 38 + to(12);
+    return kind == 0 ? near(206) : kind == 1 ? 190 + to(17) : kind == 2 ? to(207) : midst - 6 + to(12);
   }
 
   private int someYear() {
     int kind = to(9);
-    return kind == 0 ? near(199) : kind == 1 ? 190 + to(10) : 36 + to(16);
+    return kind == 0 ? near(199) : kind == 1 ? 190 + to(10) : midst - 8 + to(16);
   }
 
   private int someDay() {
     if (to(25) == 0) {
       return near(72999);
     }
-    int year = to(5) == 0 ? to(200) : 36 + to(16);
+    int year = to(5) == 0 ? to(200) : Math.max(0, Math.min(199, midst - 8 + to(16)));
     return year * 365 + (to(3) == 0 ? to(365) : to(4));
   }
 
