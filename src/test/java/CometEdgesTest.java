@@ -17,6 +17,7 @@ public final class CometEdgesTest {
     breaksOfRent();
     breaksAreNotMade();
     leastOfSixty();
+    leastOfAll();
     leastOfSold();
     leastRefused();
     Checks.end("CometEdgesTest");
@@ -262,6 +263,30 @@ public final class CometEdgesTest {
       Edges.due("bought in year " + year, x.least(1, 0), year == 0 ? 1 : year <= 60 ? year : 1);
       Edges.due("of others in year " + year, x.least(2, 3), 1);
     }
+  }
+
+  /** Wine is another one by each SALE that its COUNTY has part in. */
+  private static void leastOfAll() {
+    Edges.sentence("the NAME (1 .. 60) of those that can be SOLD by which BREAKS is least; of several the least");
+    SoldYear x = new SoldYear();
+    for (int i = 0; i < 10; i++) {
+      x.thing(50, 0, 0);
+    }
+    for (int i = 0; i < 4; i++) {
+      x.pass(9999);
+    }
+    Edges.due("the first breaks all", x.breaks(1, 0, 1), 10);
+    Edges.due("the last, too", x.breaks(60, 0, 1), 10);
+    Edges.due("each breaks all", x.least(0, 1), 1);
+    x.set(9, 0, 0);
+    Edges.due("each breaks all but one", x.least(0, 1), 1);
+    Edges.due("bought: a name less and a sale more", x.breaks(60, 1, 0), 0);
+    x.set(9, 0, 5);
+    Edges.due("bought, each breaks none", x.least(1, 0), 1);
+    for (int i = 0; i < 2; i++) {
+      x.set(i, 2, 2);
+    }
+    Edges.due("of others", x.least(3, 2), 1);
   }
 
   private static void leastOfSold() {

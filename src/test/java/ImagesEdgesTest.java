@@ -118,7 +118,8 @@ public final class ImagesEdgesTest {
       x -> x.sale(60, 0, 1), SoldYear::undo, x -> x.pass(1), x -> x.thing(0, 0, 0), x -> x.set(0, 0, 4),
       x -> x.set(0, 1, 9), x -> x.set(0, 2, 3), x -> x.set(0, 3, 0), x -> x.feed(97, 1), x -> x.text(1), x -> x.text(0),
       x -> x.untell(0), x -> x.untell(1), x -> x.paper(9, 9), SoldYear::burn, SoldYear::clerk, x -> x.seed(9),
-      x -> x.comet(0, 1), x -> x.papers(1), x -> x.tell(3), SoldYear::check, SoldYear::restore
+      x -> x.comet(0, 1), x -> x.papers(1), x -> x.tell(3), SoldYear::check, ImagesEdgesTest::sellOthers,
+      ImagesEdgesTest::writeOthers, ImagesEdgesTest::tellOthers, ImagesEdgesTest::feedOthers, SoldYear::restore
     };
     for (int i = 0; i < changes.length; i++) {
       SoldYear x = Edges.rich();
@@ -131,6 +132,32 @@ public final class ImagesEdgesTest {
       Edges.due("change " + i, x.restore(), 20001);
       Edges.same("change " + i + " is gone", x, y);
     }
+  }
+
+  /** Others in the places of those that are in the IMAGE. */
+  private static long sellOthers(SoldYear x) {
+    x.undo();
+    x.undo();
+    x.undo();
+    return x.sale(9, 3, 2) + x.sale(8, 1, 0) + x.sale(7, 3, 1);
+  }
+
+  private static long writeOthers(SoldYear x) {
+    x.burn();
+    x.burn();
+    x.burn();
+    return x.paper(40, 301) + x.paper(43, 99) + x.paper(45, 11);
+  }
+
+  private static long tellOthers(SoldYear x) {
+    x.check();
+    return x.tell(1) + x.tell(2) + x.tell(3);
+  }
+
+  private static long feedOthers(SoldYear x) {
+    x.text(1);
+    Checks.word(x, "9*9*9");
+    return x.text(0) + Checks.word(x, "k-k-k");
   }
 
   private static void fullOnes() {

@@ -61,6 +61,7 @@ public final class PapersEdgesTest {
     Edges.due("a ninth", x.paper(0, 0), Checks.FULL);
     Edges.due("there is none", x.paperIs(8, 0), Checks.BEYOND);
     Edges.due("all in order", x.rows(), 1);
+    Edges.sentence("A PAPER: its number. BEYOND. FULL.");
     Edges.refused("a ninth", Checks.FULL, PapersEdgesTest::paperFive, y -> y.paper(206, 364));
     Edges.due("one burns", x.burn(), 7);
     Edges.due("the eighth anew", x.paper(30, 0), 7);

@@ -183,12 +183,25 @@ public final class SalesEdgesTest {
     }
     Edges.due("a seventh", x.sale(30, 0, 1), Checks.FULL);
     Edges.refused("the seventh, from others", Checks.FULL, SalesEdgesTest::sellThree, y -> y.sale(30, 2, 3));
+    Edges.sentence("BREAKS. BEYOND, STATE: as of sale(). FULL: no SALE can be made any more.");
     Edges.refused("breaks by a seventh", Checks.FULL, SalesEdgesTest::sellThree, y -> y.breaks(30, 2, 3));
+    Edges.due("breaks by a sixth", sellTwo().breaks(30, 2, 3), 0);
+    Edges.due("the sixth", sellTwo().sale(30, 2, 3), 5);
+    Edges.sentence("FULL. NONE: none can be SOLD.");
+    Edges.due("least as the sixth", sellTwo().least(3, 1), 1);
     Edges.refused("least as the seventh", Checks.FULL, SalesEdgesTest::sellThree, y -> y.least(2, 3));
+    Edges.sentence("SALES 0, 1, .. (at most 6)");
     Edges.due("one less", x.undo(), 5);
     Edges.due("the sixth anew", x.sale(30, 0, 1), 5);
     Edges.due("a seventh", x.sale(31, 0, 1), Checks.FULL);
     Edges.due("six", x.count(0), 6);
+  }
+
+  private static SoldYear sellTwo() {
+    SoldYear x = Edges.rich();
+    sellThree(x);
+    x.undo();
+    return x;
   }
 
   /** After the three that are there. */
@@ -393,6 +406,11 @@ public final class SalesEdgesTest {
   }
 
   private static void daysThatPass() {
+    Edges.sentence("NOW is one of them (0 at first).");
+    Edges.due("now", new SoldYear().count(3), 0);
+    SoldYear x = new SoldYear();
+    passToTheEnd(x);
+    Edges.due("the last one", x.count(3), 72999);
     Edges.sentence("n (1 .. 9999) DAYS go by: NOW. BEYOND.");
     Edges.within("pass", 1, 9999, SoldYear::pass, v -> 20001 + v);
   }

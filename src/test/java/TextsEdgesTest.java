@@ -199,7 +199,7 @@ public final class TextsEdgesTest {
     faults(0, "-1", 0);
     faults(0, "+1", 0);
     SoldYear x = new SoldYear();
-    x.thing(0, 0, 0);
+    x.thing(7, 0, 0);
     String[] texts = {"0", "9", "10", "99", "100", "999", "1000", "9999", "0000", "0009", "0090"};
     int[] due = {0, 9, 10, 99, 100, 999, 1000, 9999, 0, 9, 90};
     for (int i = 0; i < texts.length; i++) {
@@ -392,9 +392,10 @@ public final class TextsEdgesTest {
     }
   }
 
+  /** Of a deed with a = 0, k = 0 and m = 7. */
   private static int worth(String text) {
     SoldYear x = new SoldYear();
-    x.thing(0, 0, 0);
+    x.thing(7, 0, 0);
     Edges.due("text " + text, Checks.text(x, 1, text), 1);
     return x.thingIs(0, 5);
   }
@@ -467,7 +468,7 @@ public final class TextsEdgesTest {
   private static void heldAges() {
     Edges.sentence("held within 0 .. 999");
     SoldYear x = new SoldYear();
-    x.thing(60, 0, 5);
+    x.thing(67, 0, 5);
     String[] texts = {"0-9999", "0-2", "0-1", "0", "1", "998", "999", "1000", "1001", "9999", "1024*1024*1024*2",
         "1024*1024*1024*2-1"};
     int[] due = {0, 0, 0, 0, 1, 998, 999, 999, 999, 999, 0, 999};
@@ -479,7 +480,7 @@ public final class TextsEdgesTest {
     }
     for (int kind = 0; kind < 6; kind++) {
       x.set(0, 0, kind);
-      Edges.due("of a told one alone, kind " + kind, x.age(0, 3, 5), 0);
+      Edges.due("of a told one alone, kind " + kind, x.age(0, 3, 5), kind == 3 ? 7 : 0);
     }
   }
 

@@ -12,6 +12,7 @@ public final class ThingsEdgesTest {
     asKinds();
     settings();
     daysOfAge();
+    ageRefused();
     aheadOfBeginning();
     daysCut();
     birthdays();
@@ -26,10 +27,12 @@ public final class ThingsEdgesTest {
     comingAtOnce();
     comingAtLast();
     comingOfEachKind();
+    comingByLeaps();
     comingBackwards();
     nowhere();
     leastCounty();
     twinsOfDates();
+    howManyTwins();
     twinsOfKinds();
     Checks.end("ThingsEdgesTest");
   }
@@ -37,6 +40,7 @@ public final class ThingsEdgesTest {
   private static void kindsAndNumbers() {
     Edges.sentence("km: 10 times the KIND, and m. BEYOND. FULL.");
     Edges.within("thing", 0, 69, (x, v) -> x.thing(v, 0, 0), v -> 4);
+    Edges.sentence("each with a number m (0 .. 9)");
     for (int km : new int[] {0, 1, 8, 9, 10, 11, 59, 60, 68, 69}) {
       SoldYear x = new SoldYear();
       Edges.due("km " + km, x.thing(km, 1, 2), 0);
@@ -190,6 +194,22 @@ public final class ThingsEdgesTest {
     // TOLD: both are 158, and 5
     int[] ages = {159, 5, 188, 199};
     Edges.within("thing", 0, 3, (x, v) -> x.age(v, 1, 72999), v -> ages[v]);
+  }
+
+  private static void ageRefused() {
+    Edges.sentence("AGE. BEYOND.");
+    for (int thing : new int[] {-1, 4, 9, 10, Integer.MIN_VALUE, Integer.MAX_VALUE}) {
+      Edges.refused("thing " + thing, Checks.BEYOND, x -> x.age(thing, 0, 0));
+    }
+    for (int county : new int[] {-1, 4, Integer.MIN_VALUE, Integer.MAX_VALUE}) {
+      Edges.refused("county " + county, Checks.BEYOND, x -> x.age(3, county, 0));
+    }
+    for (int day : new int[] {-1, 73000, Integer.MIN_VALUE, Integer.MAX_VALUE}) {
+      Edges.refused("day " + day, Checks.BEYOND, x -> x.age(3, 0, day));
+    }
+    Edges.refusedAnew("no thing", Checks.BEYOND, x -> 0, x -> x.age(0, 0, 0));
+    Edges.due("the greatest of all", Edges.rich().age(3, 3, 72999), 199);
+    Edges.due("the least of all", Edges.rich().age(0, 0, 0), 0);
   }
 
   private static void aheadOfBeginning() {
@@ -408,6 +428,10 @@ public final class ThingsEdgesTest {
     Edges.due("one more, the last day", x.comes(0, 0, 10), Checks.NONE);
     Edges.due("where, as at first, the last day", x.where(0, 9), 0);
     Edges.due("where, one more, the last day", x.where(0, 10), Checks.NONE);
+    x.set(0, 3, 0);
+    x.sale(1, 3, 0);
+    Edges.due("where, as at first, day 0", x.where(0, 9), 0);
+    Edges.due("where, one more, day 0", x.where(0, 10), 0);
     SoldYear y = new SoldYear();
     y.sale(3, 0, 1);
     y.sale(4, 0, 1);
@@ -461,6 +485,29 @@ public final class ThingsEdgesTest {
             Edges.due("a year begins or it began then", day % YEAR == 0 || day % YEAR == 50 ? 1 : 0, 1);
           }
         }
+      }
+    }
+  }
+
+  /** AGE needn't be just as many on any DAY. */
+  private static void comingByLeaps() {
+    Edges.sentence("the first DAY, from the one on which it BEGAN on, on which AGE there is a or more");
+    SoldYear x = new SoldYear();
+    x.sale(22, 0, 1);
+    x.thing(60, 0, 20 * YEAR + 50);
+    Checks.text(x, 0, "b*10");
+    int[] firsts = {21 * YEAR + 50, 22 * YEAR, 22 * YEAR + 50, 23 * YEAR + 50};
+    for (int i = 0; i < firsts.length; i++) {
+      for (int years : new int[] {10 * i + 1, 10 * i + 5, 10 * i + 9, 10 * i + 10}) {
+        Edges.due("seller's " + years, x.comes(0, 0, years), firsts[i]);
+      }
+      Edges.due("the day ahead", x.age(0, 0, firsts[i] - 1), 10 * i);
+      Edges.due("on the day", x.age(0, 0, firsts[i]), 10 * i + 10);
+    }
+    int[] buyers = {21 * YEAR + 50, 22 * YEAR + 50, 24 * YEAR + 50, 25 * YEAR + 50};
+    for (int i = 0; i < buyers.length; i++) {
+      for (int years : new int[] {10 * i + 1, 10 * i + 5, 10 * i + 9, 10 * i + 10}) {
+        Edges.due("buyer's " + years, x.comes(0, 1, years), buyers[i]);
       }
     }
   }
@@ -523,6 +570,17 @@ public final class ThingsEdgesTest {
         Edges.due("two like ones", x.where(0, 20), Math.min(one, fourth));
       }
     }
+    SoldYear y = new SoldYear();
+    y.thing(20, 0, 20 * YEAR);
+    y.sale(30, 0, 1);
+    y.sale(31, 1, 0);
+    y.sale(30, 2, 3);
+    Edges.due("one has bought none", y.where(0, 20), 2);
+    y.sale(31, 3, 2);
+    Edges.due("all have bought one", y.where(0, 20), 0);
+    for (int county = 0; county < 4; county++) {
+      Edges.due("a year later", y.comes(0, county, 20), 41 * YEAR);
+    }
   }
 
   private static void twinsOfDates() {
@@ -557,6 +615,22 @@ public final class ThingsEdgesTest {
     Edges.due("five on each of the two days", x.twins(), 25);
     x.undo();
     Edges.due("no name is there twice", x.twins(), 0);
+  }
+
+  private static void howManyTwins() {
+    Edges.sentence("How many TWINS there are.");
+    SoldYear x = new SoldYear();
+    x.sale(30, 0, 1);
+    int[] due = {0, 0, 1, 2, 4, 6, 9, 12, 16, 20, 25};
+    for (int n = 0; n <= 10; n++) {
+      Edges.due("things " + n, x.twins(), due[n]);
+      x.thing(10, 1, (30 + n % 2) * YEAR + 364);
+    }
+    SoldYear y = new SoldYear();
+    for (int n = 0; n < 10; n++) {
+      y.thing(10, 1, 30 * YEAR);
+    }
+    Edges.due("ten of one day", y.twins(), 0);
   }
 
   private static void twinsOfKinds() {
