@@ -16,6 +16,7 @@ public final class CometEdgesTest {
     breaksOfWine();
     breaksOfRent();
     breaksAreNotMade();
+    breaksBesideSales();
     leastOfSixty();
     leastOfAll();
     leastOfSold();
@@ -247,6 +248,27 @@ public final class CometEdgesTest {
     Edges.due("the sixth", y.sale(9, 0, 1), 5);
     Edges.due("no seventh", y.breaks(8, 0, 1), Checks.FULL);
     Edges.due("least of no seventh", y.least(0, 1), Checks.FULL);
+  }
+
+  /** Up to the last SALE that can be made. */
+  private static void breaksBesideSales() {
+    Edges.sentence("FULL: no SALE can be made any more.");
+    for (int sales = 0; sales <= 6; sales++) {
+      SoldYear x = new SoldYear();
+      for (int i = 0; i < sales; i++) {
+        x.sale(140 + i, 2, 3);
+      }
+      x.thing(10, 0, 10 * 365);
+      x.thing(50, 1, 12 * 365);
+      x.thing(20, 2, 12 * 365);
+      for (int i = 0; i < 4; i++) {
+        x.pass(9999);
+      }
+      Edges.due("sales " + sales + ", breaks", x.breaks(50, 0, 1), sales < 6 ? 1 : Checks.FULL);
+      Edges.due("sales " + sales + ", breaks of rent", x.breaks(50, 3, 2), sales < 6 ? 1 : Checks.FULL);
+      Edges.due("sales " + sales + ", least", x.least(0, 1), sales < 6 ? 1 : Checks.FULL);
+      Edges.due("sales " + sales + ", made", x.sale(50, 0, 1), sales < 6 ? sales : Checks.FULL);
+    }
   }
 
   private static void leastOfSixty() {

@@ -9,6 +9,7 @@ public final class ImagesEdgesTest {
     whichStays();
     allOfIt();
     fullOnes();
+    lastOnesKept();
     emptyOnes();
     whatIsNotKept();
     waiting();
@@ -208,6 +209,46 @@ public final class ImagesEdgesTest {
     Edges.due("the tape", x.text(0), -70);
   }
 
+  /** What stands last in a full row is kept, too. */
+  private static void lastOnesKept() {
+    Edges.sentence("All is as the IMAGE has it, which stays: NOW.");
+    SoldYear x = new SoldYear();
+    for (int i = 0; i < 6; i++) {
+      x.sale(20 + i, 2, 3);
+    }
+    for (int i = 0; i < 10; i++) {
+      x.thing(10 + i, i % 4, 1000 * i);
+    }
+    for (int i = 0; i < 8; i++) {
+      x.paper(50 + i, i);
+    }
+    Checks.feed(x, "1" + "+m".repeat(28) + "+10");
+    x.image();
+    x.undo();
+    x.sale(5, 1, 0);
+    int[] others = {4, 5, 3, 77};
+    for (int what = 0; what < 4; what++) {
+      x.set(9, what, others[what]);
+    }
+    x.burn();
+    x.paper(99, 99);
+    x.text(1);
+    Checks.feed(x, "2" + "+m".repeat(28) + "+21");
+    x.restore();
+    Edges.due("the sixth sale's name", x.saleIs(5, 0), 25);
+    Edges.due("from", x.saleIs(5, 1), 2);
+    Edges.due("to", x.saleIs(5, 2), 3);
+    Edges.due("what it does", x.name(2, 199) * 1000 + x.name(3, 199), 205193);
+    int[] facts = {1, 9, 1, 9000};
+    for (int what = 0; what < 4; what++) {
+      Edges.due("of the tenth thing " + what, x.thingIs(9, what), facts[what]);
+    }
+    Edges.due("the eighth paper's name", x.paperIs(7, 0), 57);
+    Edges.due("its day", x.paperIs(7, 1), 7);
+    Edges.due("sixty bytes", x.text(1), 1);
+    Edges.due("the last of them", x.thingIs(9, 5), 1 + 28 * 9 + 10);
+  }
+
   private static void emptyOnes() {
     Edges.sentence("All is as the IMAGE has it, which stays: NOW.");
     SoldYear x = new SoldYear();
@@ -365,6 +406,14 @@ public final class ImagesEdgesTest {
     Edges.due("one less", checked(x, 72998), 1);
     Edges.due("one more", checked(x, 73000), 1);
     Edges.due("a year more", checked(x, 72999 + YEAR), 1);
+    for (int name = 198; name <= 206; name++) {
+      for (int of : new int[] {0, 5, 364}) {
+        SoldYear z = new SoldYear();
+        z.paper(name, of);
+        Edges.due("name " + name + ", no year behind the last", checked(z, name * YEAR + of), name < 200 ? 0 : 1);
+      }
+    }
+    twoOfOne();
     SoldYear y = new SoldYear();
     y.sale(41, 0, 1);
     y.paper(42, 9);
@@ -375,6 +424,18 @@ public final class ImagesEdgesTest {
     y.burn();
     y.paper(206, 9);
     Edges.due("no day at all", checked(y, 42 * YEAR + 9), 1);
+  }
+
+  /** A COUNTY that has sold two names, to two others: what a PAPER may be isn't alike on both sides of its NAME. */
+  private static void twoOfOne() {
+    SoldYear x = new SoldYear();
+    x.sale(41, 0, 1);
+    x.sale(45, 0, 2);
+    x.paper(46, 9);
+    // county 0: YEAR 44; 1, 2: 47; 3: 46
+    for (int year = 42; year <= 50; year++) {
+      Edges.due("two sold, year " + year, checked(x, year * YEAR + 9), year == 44 || year == 46 || year == 47 ? 0 : 1);
+    }
   }
 
   private static void checksOfOrder() {

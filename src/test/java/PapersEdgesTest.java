@@ -18,6 +18,7 @@ public final class PapersEdgesTest {
     spanPlaces();
     spansOfOne();
     spansOfTwo();
+    spansFarOn();
     spansWithoutRows();
     clerkRests();
     clerkHolds();
@@ -315,6 +316,42 @@ public final class PapersEdgesTest {
       Edges.due("second, least", x.span(1, 0), (of > 100 ? 41 : 42) * YEAR + of);
       Edges.due("second, greatest", x.span(1, 1), 42 * YEAR + of);
     }
+  }
+
+  /** Two of the second PAPER's DAYS are too early, or two of the first one's too late. */
+  private static void spansFarOn() {
+    Edges.sentence("SPAN of a PAPER: the least, the greatest DAY that it is in any of them.");
+    SoldYear x = new SoldYear();
+    x.sale(41, 0, 1);
+    // YEARS of the NAME 41: 41, 42; 42: 41, 42, 43; 43: 42, 43, 44; 44: 43, 44, 45
+    x.paper(43, 100);
+    x.paper(42, 50);
+    Edges.due("rows", x.rows(), 1);
+    for (int greatest = 0; greatest < 2; greatest++) {
+      Edges.due("of the first", x.span(0, greatest), 42 * 365 + 100);
+      Edges.due("of the second", x.span(1, greatest), 43 * 365 + 50);
+    }
+    x.paper(42, 50);
+    Edges.due("no rows", x.span(0, 0), Checks.NONE);
+    x.burn();
+    x.paper(44, 20);
+    Edges.due("rows of three", x.rows(), 2);
+    Edges.due("of the third, the least", x.span(2, 0), 44 * 365 + 20);
+    Edges.due("of the third, the greatest", x.span(2, 1), 45 * 365 + 20);
+    Edges.due("of the second, the greatest", x.span(1, 1), 43 * 365 + 50);
+    SoldYear y = new SoldYear();
+    y.sale(41, 0, 1);
+    y.sale(45, 2, 3);
+    y.sale(46, 2, 3);
+    // YEARS of the NAME 47: 46 and 48 by the first sale, 47 by none, 45 and 49 by the others
+    y.paper(47, 9);
+    y.paper(47, 8);
+    Edges.due("days", y.paperIs(0, 2), 4);
+    Edges.due("the least of the first", y.span(0, 0), y.may(0, 0));
+    Edges.due("the least of the second", y.span(1, 0), y.may(1, 1));
+    Edges.due("the greatest of the first", y.span(0, 1), y.may(0, 2));
+    Edges.due("the greatest of the second", y.span(1, 1), y.may(1, 3));
+    Edges.due("rows of two", y.rows(), 6);
   }
 
   private static void spansWithoutRows() {

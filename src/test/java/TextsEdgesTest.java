@@ -153,15 +153,39 @@ public final class TextsEdgesTest {
     Edges.due("60 bytes", Checks.text(x, 0, "m+".repeat(29) + "19"), 1);
     Edges.due("as many and 19", x.thingIs(0, 4), 29 + 19);
     Edges.due("60 bytes, too early", Checks.text(x, 0, "m+".repeat(30)), -70);
+    Edges.due("60 bytes, each of them a step", Checks.text(x, 0, "!m" + "+m".repeat(29)), 1);
+    Edges.due("29 of m", x.thingIs(0, 4), 29);
+    Edges.due("60 bytes, the last one a !'s", Checks.text(x, 0, "m+".repeat(29) + "!m"), 1);
+    Edges.due("29 of m again", x.thingIs(0, 4), 29);
     Edges.due("59 bytes, too early", Checks.text(x, 0, "10" + "+m".repeat(28) + "+"), -69);
     Edges.due("the last one is a fault", Checks.text(x, 0, "m+".repeat(29) + "m)"), -69);
     Edges.due("60 bytes, an open one", Checks.text(x, 0, "(1" + "+m".repeat(29)), -70);
     Edges.due("60 bytes, closed", Checks.text(x, 0, "(1" + "+m".repeat(27) + "+11)"), 1);
     Edges.due("1, as many, and 11", x.thingIs(0, 4), 1 + 27 + 11);
+    shorterOnes();
     Edges.due("sixty of !", Checks.text(x, 0, "!".repeat(60)), -15);
     Edges.due("sixty of (", Checks.text(x, 0, "(".repeat(60)), -15);
     Edges.due("sixty digits", Checks.text(x, 0, "1".repeat(60)), -14);
     Edges.due("the one ahead stays", x.thingIs(0, 4), 39);
+  }
+
+  /** Nothing is left of the longer TEXT ahead, whatever stood there. */
+  private static void shorterOnes() {
+    for (char sign : "|&<=>+-*/%".toCharArray()) {
+      for (int use = 0; use < 2; use++) {
+        SoldYear x = new SoldYear();
+        x.thing(65, 0, 0);
+        Edges.due("the longer one", Checks.text(x, use, "!" + "m" + sign + "!7"), 1);
+        Edges.due("a number", Checks.text(x, use, "8"), 1);
+        Edges.due("8 alone", x.thingIs(0, 4 + use), 8);
+        Edges.due("another longer one", Checks.text(x, use, "m" + sign + "7" + sign + "!m"),
+            "<=>".indexOf(sign) < 0 ? 1 : -13);
+        Edges.due("a name", Checks.text(x, use, "m"), 1);
+        Edges.due("m alone", x.thingIs(0, 4 + use), 5);
+        Edges.due("two", Checks.text(x, use, "9-m"), 1);
+        Edges.due("9 less m", x.thingIs(0, 4 + use), 4);
+      }
+    }
   }
 
   private static int fault(int use, String text) {

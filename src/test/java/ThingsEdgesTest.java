@@ -11,6 +11,7 @@ public final class ThingsEdgesTest {
     worthAtBothEnds();
     asKinds();
     settings();
+    settingsOfEach();
     daysOfAge();
     ageRefused();
     aheadOfBeginning();
@@ -32,6 +33,7 @@ public final class ThingsEdgesTest {
     nowhere();
     leastCounty();
     twinsOfDates();
+    twinsInAnyOrder();
     howManyTwins();
     twinsOfKinds();
     Checks.end("ThingsEdgesTest");
@@ -182,6 +184,28 @@ public final class ThingsEdgesTest {
         }
         Edges.due("set back", x.set(2, what, were[what]), v);
         Edges.same("all is as it was", x, Edges.rich());
+      }
+    }
+  }
+
+  private static void settingsOfEach() {
+    Edges.sentence("KIND (what 0), m (1), COUNTY (2), the DAY on which it BEGAN (3) of a THING becomes v: what it was. "
+        + "BEYOND.");
+    for (int thing = 0; thing < 10; thing++) {
+      SoldYear x = new SoldYear();
+      for (int i = 0; i < 10; i++) {
+        x.thing(10 + i, 1, 100 + i);
+      }
+      int[] news = {5, 9 - thing, 3, 72999};
+      int[] were = {1, thing, 1, 100 + thing};
+      for (int what = 0; what < 4; what++) {
+        Edges.due("of thing " + thing + ", " + what, x.set(thing, what, news[what]), were[what]);
+      }
+      for (int i = 0; i < 10; i++) {
+        int[] due = {1, i, 1, 100 + i};
+        for (int what = 0; what < 4; what++) {
+          Edges.due("then of " + i + ", " + what, x.thingIs(i, what), i == thing ? news[what] : due[what]);
+        }
       }
     }
   }
@@ -456,6 +480,7 @@ public final class ThingsEdgesTest {
       Edges.refused("a day too late, " + years, Checks.NONE, y -> y.thing(0, 1, began), y -> y.comes(4, 0, years));
       Edges.refused("a day too late, " + years, Checks.NONE, y -> y.thing(0, 1, began), y -> y.where(4, years));
     }
+    daysOfTheYear();
     SoldYear x = new SoldYear();
     x.thing(20, 0, 198 * YEAR + 364);
     Edges.due("rent, the last year's first day", x.comes(0, 0, 1), 199 * YEAR);
@@ -465,6 +490,21 @@ public final class ThingsEdgesTest {
     Checks.text(x, 0, "98");
     Edges.due("told less", x.comes(0, 0, 99), Checks.NONE);
     Edges.due("told as many", x.comes(0, 0, 98), 199 * YEAR);
+  }
+
+  /** By the sky and by the book a year is over on the day of the year on which it began, not on the one beside it. */
+  private static void daysOfTheYear() {
+    for (int of : new int[] {0, 1, 2, 182, 362, 363, 364}) {
+      SoldYear x = new SoldYear();
+      x.thing(0, 2, 20 * YEAR + of);
+      x.thing(10, 2, 20 * YEAR + of);
+      x.thing(20, 2, 20 * YEAR + of);
+      for (int years : new int[] {1, 2, 99}) {
+        Edges.due("deed of day " + of, x.comes(0, 3, years), (20 + years) * YEAR + of);
+        Edges.due("birth of day " + of, x.comes(1, 3, years), (20 + years) * YEAR + of);
+        Edges.due("rent of day " + of, x.comes(2, 3, years), (20 + years) * YEAR);
+      }
+    }
   }
 
   private static void comingOfEachKind() {
@@ -615,6 +655,38 @@ public final class ThingsEdgesTest {
     Edges.due("five on each of the two days", x.twins(), 25);
     x.undo();
     Edges.due("no name is there twice", x.twins(), 0);
+  }
+
+  /** Which of two came first doesn't matter, nor what other THINGS are. */
+  private static void twinsInAnyOrder() {
+    Edges.sentence("of one COUNTY, with like DATES there, but not of one DAY.");
+    for (int one = 0; one < 4; one++) {
+      for (int other = 0; other < 4; other++) {
+        for (int turned = 0; turned < 2; turned++) {
+          SoldYear x = new SoldYear();
+          x.sale(41, 0, 1);
+          x.thing(10, one, (41 + turned) * YEAR + 7);
+          x.thing(10, other, (42 - turned) * YEAR + 7);
+          Edges.due("counties " + one + " and " + other, x.twins(), one == 1 && other == 1 ? 1 : 0);
+        }
+      }
+    }
+    for (int county = 0; county < 4; county++) {
+      for (int first = 0; first < 7; first++) {
+        SoldYear x = new SoldYear();
+        x.sale(41, (county + 1) % 4, county);
+        for (int i = 0; i < 4; i++) {
+          x.thing(first * 10, (county + 1) % 4, 100 * i);
+        }
+        x.thing(20, county, 41 * YEAR + 7);
+        x.thing(10, county, 42 * YEAR + 7);
+        Edges.due("a rent and a birth", x.twins(), 0);
+        x.set(4, 0, 5);
+        Edges.due("wine and a birth", x.twins(), 1);
+        x.set(5, 0, 3);
+        Edges.due("wine and a term", x.twins(), 0);
+      }
+    }
   }
 
   private static void howManyTwins() {

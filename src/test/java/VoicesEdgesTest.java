@@ -9,6 +9,7 @@ public final class VoicesEdgesTest {
     wraps();
     halves();
     parts();
+    partsOfBirths();
     partedAtNone();
     partedOfEachKind();
     partedChangesNothingElse();
@@ -114,6 +115,18 @@ public final class VoicesEdgesTest {
     SoldYear x = second(0);
     Edges.due("the least by -1 wraps", x.voice(1, 3, LEAST), LEAST);
     Edges.due("the next by -1", x.voice(1, 3, LEAST + 1), GREATEST);
+  }
+
+  /** A birth's parts of any number: its ages are those of 1 all the same. */
+  private static void partsOfBirths() {
+    Edges.sentence("21 parts: super.parts(x) + ages(1).");
+    for (int kind : new int[] {1, 4, 5}) {
+      int ages = kind == 4 ? (1 + 1 - 7) * 3 * 2 : kind == 5 ? (2 + 1 - 7) * 2 : (1 + 1 - 7) * 2;
+      for (int v : new int[] {LEAST, -41, -40, -39, -1, 0, 1, 38, 39, 40, 41, 80, 1000, GREATEST}) {
+        Edges.due("kind " + kind + ", parts of " + v, second(kind * 10 + 2).voice(1, 3, v), v + ages);
+        Edges.due("kind " + kind + ", thirds of " + v, second(kind * 10 + 4).voice(1, 3, v), v / 3 + ages);
+      }
+    }
   }
 
   private static void partedAtNone() {
